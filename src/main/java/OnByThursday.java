@@ -9,6 +9,7 @@ public final class OnByThursday {
 
     private static final int PLAYERS = 10, PARTS = 8, SCENES = 10, COVERS = 24;
     private static final int PAIRS = PLAYERS * PARTS;
+    private static final int PAIRS_OF_PLAYERS = PLAYERS * (PLAYERS - 1) / 2;
     private static final int PLAYER_SETS = 1 << PLAYERS;
     private static final int TEXT_BYTES = 400;
     private static final int KEPT_AT_MOST = 2;
@@ -239,7 +240,7 @@ public final class OnByThursday {
             return BAD;
         }
         understudies.findBest(company, absences, k);
-        return what == 0 || understudies.bestCover[k] == NONE ? understudies.bestCover[k] : understudies.stillWeak[k];
+        return what == 0 || understudies.bestCover == NONE ? understudies.bestCover : understudies.stillWeak;
     }
 
     public int fewest() {
@@ -608,14 +609,6 @@ public final class OnByThursday {
         int hours(int i) {
             return (length[i] + 99) / 100;
         }
-
-        void learn(int p, int i) {
-            able[i] |= 1 << p;
-        }
-
-        void unlearn(int p, int i) {
-            able[i] &= ~(1 << p);
-        }
     }
 
     /** The scenes in their row, and how long a change takes. */
@@ -851,14 +844,89 @@ public final class OnByThursday {
         }
     }
 
+    /** Finds out whether there is any casting, without looking for the best one. */
+    private static final class Attempt {
+        private Company company;
+        private int open;
+        /** A row for each part that has been cast: who is left for each open part. */
+        private final int[] left = new int[(PARTS + 1) * PARTS];
+
+        void begin(Company playing, int off, int cut) {
+            company = playing;
+            open = (1 << company.parts) - 1 & ~cut;
+            for (int i = 0; i < company.parts; i++) {
+                left[i] = company.able[i] & ~off;
+            }
+        }
+
+        /** A player has an open part, whether it may play it or not. */
+        void give(int p, int i) {
+            open &= ~(1 << i);
+            for (int j = 0; j < company.parts; j++) {
+                if (has(company.clash[i], j)) {
+                    left[j] &= ~(1 << p);
+                }
+            }
+        }
+
+        boolean succeeds() {
+            return canFill(this, open, 0);
+        }
+
+        /** The part with the fewest players left is cast first: that shows soonest that there is no way. */
+        private static boolean canFill(Attempt a, int open, int depth) {
+            if (open == 0) {
+                return true;
+            }
+            if (depth >= PARTS) {
+                return false;
+            }
+            int row = depth * PARTS;
+            int i = a.scarcest(open, row);
+            int others = open & ~(1 << i);
+            for (int p = 0; p < a.company.players; p++) {
+                if (has(a.left[row + i], p) && a.strike(others, row, p, i) && canFill(a, others, depth + 1)) {
+                    return true;
+                }
+            }
+            return false;
+        }
+
+        private int scarcest(int among, int row) {
+            int found = 0;
+            int fewest = PLAYERS + 1;
+            for (int i = 0; i < company.parts && fewest > 1; i++) {
+                if (has(among, i) && Integer.bitCount(left[row + i]) < fewest) {
+                    fewest = Integer.bitCount(left[row + i]);
+                    found = i;
+                }
+            }
+            return found;
+        }
+
+        /** Fills the next row, the player having the part; false if nobody is left then for another one. */
+        private boolean strike(int others, int row, int p, int part) {
+            int clash = company.clash[part];
+            for (int i = 0; i < company.parts; i++) {
+                if (has(others, i)) {
+                    int still = has(clash, i) ? left[row + i] & ~(1 << p) : left[row + i];
+                    if (still == 0) {
+                        return false;
+                    }
+                    left[row + PARTS + i] = still;
+                }
+            }
+            return true;
+        }
+    }
+
     /** Which sets of players can be missed; asked so often that the answers are held till a company is laid. */
     private static final class Absences {
         private static final int UNKNOWN = 0, MET = 1, NOT_MET = 2;
 
         private final int[] answers = new int[PLAYER_SETS];
-        /** A row for each part that has been cast: who is left for each part. */
-        private final int[] left = new int[(PARTS + 1) * PARTS];
-        final int[] weakSets = new int[PLAYERS * PLAYERS];
+        private final Attempt attempt = new Attempt();
+        final int[] weakSets = new int[PAIRS_OF_PLAYERS];
         int weakCount;
 
         void forget() {
@@ -867,61 +935,14 @@ public final class OnByThursday {
 
         boolean isMet(Company company, int off) {
             if (answers[off] == UNKNOWN) {
-                answers[off] = canPlay(company, off, 0) ? MET : NOT_MET;
+                answers[off] = isMetByCutting(company, off, 0) ? MET : NOT_MET;
             }
             return answers[off] == MET;
         }
 
-        boolean canPlay(Company company, int off, int cut) {
-            for (int i = 0; i < company.parts; i++) {
-                left[i] = company.able[i] & ~off;
-            }
-            int open = (1 << company.parts) - 1 & ~cut;
-            return canFill(this, company, open, 0);
-        }
-
-        /** The part with the fewest players left is cast first: that shows soonest that there is no way. */
-        private static boolean canFill(Absences a, Company company, int open, int depth) {
-            if (open == 0) {
-                return true;
-            }
-            if (depth >= PARTS) {
-                return false;
-            }
-            int row = depth * PARTS;
-            int i = a.scarcest(company, open, row);
-            int others = open & ~(1 << i);
-            for (int p = 0; p < company.players; p++) {
-                if (has(a.left[row + i], p)) {
-                    a.strike(company, others, row, p, company.clash[i]);
-                    if (canFill(a, company, others, depth + 1)) {
-                        return true;
-                    }
-                }
-            }
-            return false;
-        }
-
-        private int scarcest(Company company, int open, int row) {
-            int found = 0;
-            int fewest = PLAYERS + 1;
-            for (int i = 0; i < company.parts; i++) {
-                if (has(open, i) && Integer.bitCount(left[row + i]) < fewest) {
-                    fewest = Integer.bitCount(left[row + i]);
-                    found = i;
-                }
-            }
-            return found;
-        }
-
-        /** Fills the next row: a player that has a part is left for none that clashes with it. */
-        private void strike(Company company, int open, int row, int p, int clash) {
-            for (int i = 0; i < company.parts; i++) {
-                if (has(open, i)) {
-                    int still = left[row + i];
-                    left[row + PARTS + i] = has(clash, i) ? still & ~(1 << p) : still;
-                }
-            }
+        private boolean isMetByCutting(Company company, int off, int cut) {
+            attempt.begin(company, off, cut);
+            return attempt.succeeds();
         }
 
         /** The set of parts, or NONE. */
@@ -933,7 +954,7 @@ public final class OnByThursday {
                     continue;
                 }
                 int lost = company.linesTogether(set);
-                if ((found == NONE || lost < fewestLines) && canPlay(company, off, set)) {
+                if ((found == NONE || lost < fewestLines) && isMetByCutting(company, off, set)) {
                     found = set;
                     fewestLines = lost;
                 }
@@ -950,42 +971,45 @@ public final class OnByThursday {
                 }
             }
         }
-
-        /** A new cover never makes a set weak, so only the sets that were weak are looked at. */
-        int countStillWeak(Company company) {
-            int sum = 0;
-            for (int n = 0; n < weakCount; n++) {
-                if (!canPlay(company, weakSets[n], 0)) {
-                    sum++;
-                }
-            }
-            return sum;
-        }
-
-        boolean isAnyStillWeak(Company company) {
-            for (int n = 0; n < weakCount; n++) {
-                if (!canPlay(company, weakSets[n], 0)) {
-                    return true;
-                }
-            }
-            return false;
-        }
     }
 
-    /** Covers that could be engaged; the answers are dear and are held till a company is laid. */
+    /**
+     * Covers that could be engaged. A weak set is met with a cover only by castings in which the cover plays
+     * its new part, so this part is cast ahead. What has been found out is held till a company is laid.
+     */
     private static final class Understudies {
-        private static final int NOT_ASKED = -99;
-
+        private final Attempt attempt = new Attempt();
         private final int[] coverPlayer = new int[PAIRS];
         private final int[] coverPart = new int[PAIRS];
         private int covers;
-        final int[] bestCover = new int[3];
-        final int[] stillWeak = new int[3];
+        /** For each size of sets (1, 2) and each cover: the weak sets (bits, as they come) that are met with it. */
+        private final long[] helped = new long[3 * PAIRS];
+        private int surveyedSizes;
+        private boolean fewestKnown;
         private int fewestCovers;
+        int bestCover, stillWeak;
 
         void forget() {
-            Arrays.fill(bestCover, NOT_ASKED);
-            fewestCovers = NOT_ASKED;
+            surveyedSizes = 0;
+            fewestKnown = false;
+        }
+
+        private void survey(Company company, Absences absences, int k) {
+            absences.findWeak(company, k);
+            listCovers(company);
+            if (has(surveyedSizes, k)) {
+                return;
+            }
+            surveyedSizes |= 1 << k;
+            for (int c = 0; c < covers; c++) {
+                long sets = 0;
+                for (int w = 0; w < absences.weakCount; w++) {
+                    if (helps(company, absences.weakSets[w], c)) {
+                        sets |= 1L << w;
+                    }
+                }
+                helped[k * PAIRS + c] = sets;
+            }
         }
 
         private void listCovers(Company company) {
@@ -1001,29 +1025,44 @@ public final class OnByThursday {
             }
         }
 
-        void findBest(Company company, Absences absences, int k) {
-            if (bestCover[k] != NOT_ASKED) {
-                return;
+        private boolean helps(Company company, int off, int c) {
+            if (has(off, coverPlayer[c])) {
+                return false;
             }
-            bestCover[k] = NONE;
-            listCovers(company);
-            absences.findWeak(company, k);
+            attempt.begin(company, off, 0);
+            attempt.give(coverPlayer[c], coverPart[c]);
+            return attempt.succeeds();
+        }
+
+        private boolean helpTogether(Company company, int off, int c, int d) {
+            int p = coverPlayer[c], q = coverPlayer[d];
+            int i = coverPart[c], j = coverPart[d];
+            if (has(off, p) || has(off, q) || i == j || p == q && has(company.clash[i], j)) {
+                return false;
+            }
+            attempt.begin(company, off, 0);
+            attempt.give(p, i);
+            attempt.give(q, j);
+            return attempt.succeeds();
+        }
+
+        void findBest(Company company, Absences absences, int k) {
+            survey(company, absences, k);
+            bestCover = NONE;
             for (int c = 0; c < covers; c++) {
-                company.learn(coverPlayer[c], coverPart[c]);
-                int weakThen = absences.countStillWeak(company);
-                company.unlearn(coverPlayer[c], coverPart[c]);
-                if (bestCover[k] == NONE || weakThen < stillWeak[k]) {
-                    bestCover[k] = 10 * coverPlayer[c] + coverPart[c];
-                    stillWeak[k] = weakThen;
+                int weakThen = absences.weakCount - Long.bitCount(helped[k * PAIRS + c]);
+                if (bestCover == NONE || weakThen < stillWeak) {
+                    bestCover = 10 * coverPlayer[c] + coverPart[c];
+                    stillWeak = weakThen;
                 }
             }
         }
 
         int fewestForPairs(Company company, Absences absences) {
-            if (fewestCovers == NOT_ASKED) {
-                absences.findWeak(company, 2);
-                listCovers(company);
+            if (!fewestKnown) {
+                survey(company, absences, 2);
                 fewestCovers = seekFewest(company, absences);
+                fewestKnown = true;
             }
             return fewestCovers;
         }
@@ -1032,35 +1071,30 @@ public final class OnByThursday {
             if (absences.weakCount == 0) {
                 return 0;
             }
+            long all = (1L << absences.weakCount) - 1;
             for (int c = 0; c < covers; c++) {
-                company.learn(coverPlayer[c], coverPart[c]);
-                boolean weak = absences.isAnyStillWeak(company);
-                company.unlearn(coverPlayer[c], coverPart[c]);
-                if (!weak) {
+                if (helped[2 * PAIRS + c] == all) {
                     return 1;
                 }
             }
             for (int c = 0; c < covers; c++) {
-                company.learn(coverPlayer[c], coverPart[c]);
-                boolean helped = isOneMoreEnough(company, absences, c + 1);
-                company.unlearn(coverPlayer[c], coverPart[c]);
-                if (helped) {
-                    return 2;
+                for (int d = c + 1; d < covers; d++) {
+                    if (areEnough(company, absences, c, d)) {
+                        return 2;
+                    }
                 }
             }
             return NONE;
         }
 
-        private boolean isOneMoreEnough(Company company, Absences absences, int from) {
-            for (int c = from; c < covers; c++) {
-                company.learn(coverPlayer[c], coverPart[c]);
-                boolean weak = absences.isAnyStillWeak(company);
-                company.unlearn(coverPlayer[c], coverPart[c]);
-                if (!weak) {
-                    return true;
+        private boolean areEnough(Company company, Absences absences, int c, int d) {
+            long byOne = helped[2 * PAIRS + c] | helped[2 * PAIRS + d];
+            for (int w = 0; w < absences.weakCount; w++) {
+                if ((byOne >> w & 1) == 0 && !helpTogether(company, absences.weakSets[w], c, d)) {
+                    return false;
                 }
             }
-            return false;
+            return true;
         }
     }
 
