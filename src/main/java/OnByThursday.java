@@ -239,11 +239,13 @@ public final class OnByThursday {
         if (k < 1 || k > 2 || what < 0 || what > 1) {
             return BAD;
         }
-        understudies.findBest(company, absences, k);
+        understudies.survey(company, absences, k);
+        understudies.findBest(k, absences.weakCount);
         return what == 0 || understudies.bestCover == NONE ? understudies.bestCover : understudies.stillWeak;
     }
 
     public int fewest() {
+        understudies.survey(company, absences, 2);
         return understudies.fewestForPairs(company, absences);
     }
 
@@ -896,8 +898,9 @@ public final class OnByThursday {
             int found = 0;
             int fewest = PLAYERS + 1;
             for (int i = 0; i < company.parts && fewest > 1; i++) {
-                if (has(among, i) && Integer.bitCount(left[row + i]) < fewest) {
-                    fewest = Integer.bitCount(left[row + i]);
+                int players = Integer.bitCount(left[row + i]);
+                if (has(among, i) && players < fewest) {
+                    fewest = players;
                     found = i;
                 }
             }
@@ -935,14 +938,10 @@ public final class OnByThursday {
 
         boolean isMet(Company company, int off) {
             if (answers[off] == UNKNOWN) {
-                answers[off] = isMetByCutting(company, off, 0) ? MET : NOT_MET;
+                attempt.begin(company, off, 0);
+                answers[off] = attempt.succeeds() ? MET : NOT_MET;
             }
             return answers[off] == MET;
-        }
-
-        private boolean isMetByCutting(Company company, int off, int cut) {
-            attempt.begin(company, off, cut);
-            return attempt.succeeds();
         }
 
         /** The set of parts, or NONE. */
@@ -954,7 +953,8 @@ public final class OnByThursday {
                     continue;
                 }
                 int lost = company.linesTogether(set);
-                if ((found == NONE || lost < fewestLines) && isMetByCutting(company, off, set)) {
+                attempt.begin(company, off, set);
+                if ((found == NONE || lost < fewestLines) && attempt.succeeds()) {
                     found = set;
                     fewestLines = lost;
                 }
@@ -985,16 +985,16 @@ public final class OnByThursday {
         /** For each size of sets (1, 2) and each cover: the weak sets (bits, as they come) that are met with it. */
         private final long[] helped = new long[3 * PAIRS];
         private int surveyedSizes;
-        private boolean fewestKnown;
-        private int fewestCovers;
+        private boolean twoAsked, twoEnough;
         int bestCover, stillWeak;
 
         void forget() {
             surveyedSizes = 0;
-            fewestKnown = false;
+            twoAsked = false;
         }
 
-        private void survey(Company company, Absences absences, int k) {
+        /** To be asked ahead of the rest; it lists the weak sets, too. */
+        void survey(Company company, Absences absences, int k) {
             absences.findWeak(company, k);
             listCovers(company);
             if (has(surveyedSizes, k)) {
@@ -1046,11 +1046,10 @@ public final class OnByThursday {
             return attempt.succeeds();
         }
 
-        void findBest(Company company, Absences absences, int k) {
-            survey(company, absences, k);
+        void findBest(int k, int weakCount) {
             bestCover = NONE;
             for (int c = 0; c < covers; c++) {
-                int weakThen = absences.weakCount - Long.bitCount(helped[k * PAIRS + c]);
+                int weakThen = weakCount - Long.bitCount(helped[k * PAIRS + c]);
                 if (bestCover == NONE || weakThen < stillWeak) {
                     bestCover = 10 * coverPlayer[c] + coverPart[c];
                     stillWeak = weakThen;
@@ -1059,15 +1058,6 @@ public final class OnByThursday {
         }
 
         int fewestForPairs(Company company, Absences absences) {
-            if (!fewestKnown) {
-                survey(company, absences, 2);
-                fewestCovers = seekFewest(company, absences);
-                fewestKnown = true;
-            }
-            return fewestCovers;
-        }
-
-        private int seekFewest(Company company, Absences absences) {
             if (absences.weakCount == 0) {
                 return 0;
             }
@@ -1077,14 +1067,16 @@ public final class OnByThursday {
                     return 1;
                 }
             }
-            for (int c = 0; c < covers; c++) {
-                for (int d = c + 1; d < covers; d++) {
-                    if (areEnough(company, absences, c, d)) {
-                        return 2;
+            if (!twoAsked) {
+                twoAsked = true;
+                twoEnough = false;
+                for (int c = 0; c < covers; c++) {
+                    for (int d = c + 1; d < covers && !twoEnough; d++) {
+                        twoEnough = areEnough(company, absences, c, d);
                     }
                 }
             }
-            return NONE;
+            return twoEnough ? 2 : NONE;
         }
 
         private boolean areEnough(Company company, Absences absences, int c, int d) {

@@ -20,7 +20,10 @@ public final class PlainModelTest {
     public static void main(String[] args) {
         int runs = args.length > 0 ? Integer.parseInt(args[0]) : 400;
         for (int seed = 0; seed < runs && wrongs < 20; seed++) {
-            new Run(seed).play();
+            new Run(seed, false).play();
+        }
+        for (int seed = 0; seed < runs / 10 && wrongs < 20; seed++) {
+            new Run(seed, true).play();
         }
         System.out.println(calls + " calls, " + wrongs + " wrong");
         if (wrongs > 0) {
@@ -43,6 +46,9 @@ public final class PlainModelTest {
         int[] owed = new int[10];
         int[] told = new int[10];
         List<Object[]> kept = new ArrayList<>();
+        /** With many players and parts a casting is given up as soon as a part of it can't be. */
+        boolean early = false, oneIsEnough = false;
+        boolean[] possible;
 
         Model() {
             Arrays.fill(own, NONE);
@@ -167,14 +173,17 @@ public final class PlainModelTest {
             List<int[]> found = new ArrayList<>();
             int[] who = new int[parts.size()];
             Arrays.fill(who, NONE);
+            possible = new boolean[1 << parts.size()];
+            for (int set = 0; set < possible.length; set++) possible[set] = canHave(set);
             cast(0, off, cut, who, found);
             return found;
         }
 
         void cast(int i, int off, int cut, int[] who, List<int[]> found) {
+            if (oneIsEnough && !found.isEmpty()) return;
             if (i == parts.size()) {
                 for (int p = 0; p < players.size(); p++) {
-                    if (!canHave(partsOf(p, who))) return;
+                    if (!possible[partsOf(p, who)]) return;
                 }
                 found.add(who.clone());
                 return;
@@ -186,7 +195,7 @@ public final class PlainModelTest {
             for (int p = 0; p < players.size(); p++) {
                 if ((off >> p & 1) == 0 && may(p, i)) {
                     who[i] = p;
-                    cast(i + 1, off, cut, who, found);
+                    if (!early || possible[partsOf(p, who)]) cast(i + 1, off, cut, who, found);
                     who[i] = NONE;
                 }
             }
@@ -201,7 +210,10 @@ public final class PlainModelTest {
         }
 
         boolean met(int off) {
-            return !castings(off, 0).isEmpty();
+            oneIsEnough = early;
+            boolean any = !castings(off, 0).isEmpty();
+            oneIsEnough = false;
+            return any;
         }
 
         int keptLines(int p, int i) {
@@ -411,6 +423,13 @@ public final class PlainModelTest {
             return found;
         }
 
+        boolean isAnyWeak(int k) {
+            for (int set = 0; set < 1 << players.size(); set++) {
+                if (Integer.bitCount(set) == k && !met(set)) return true;
+            }
+            return false;
+        }
+
         int weak(int k, int what) {
             if (!in(k, 1, 2) || !in(what, 0, 1)) return BAD;
             List<Integer> sets = weakSets(k);
@@ -449,10 +468,10 @@ public final class PlainModelTest {
             boolean two = false;
             for (int a = 0; a < covers.size(); a++) {
                 knows.add(covers.get(a));
-                boolean one = weakSets(2).isEmpty();
+                boolean one = !isAnyWeak(2);
                 for (int b = a + 1; b < covers.size() && !two && !one; b++) {
                     knows.add(covers.get(b));
-                    two = weakSets(2).isEmpty();
+                    two = !isAnyWeak(2);
                     knows.remove(knows.size() - 1);
                 }
                 knows.remove(knows.size() - 1);
@@ -539,12 +558,14 @@ public final class PlainModelTest {
     private static final class Run {
         final Random random;
         final int seed;
+        final boolean large;
         final OnByThursday x = new OnByThursday();
         final Model m = Model.first();
-        final StringBuilder log = new StringBuilder();
 
-        Run(int seed) {
+        Run(int seed, boolean large) {
             this.seed = seed;
+            this.large = large;
+            m.early = large;
             random = new Random(seed);
         }
 
@@ -564,6 +585,7 @@ public final class PlainModelTest {
                 if (random.nextInt(3) == 0) write(spoilt());
                 due("fault", x.fault(), new Model().read(m.text));
                 due("lay", x.lay(), m.lay());
+                if (large && random.nextInt(4) == 0) askDear();
                 ask(60);
                 if (random.nextBoolean()) {
                     due("wipe", x.wipe(), m.text.length);
@@ -599,6 +621,10 @@ public final class PlainModelTest {
 
         String company() {
             int np = 1 + upTo(random.nextInt(4) == 0 ? 5 : 4), ni = 1 + upTo(random.nextInt(4) == 0 ? 5 : 3);
+            if (large) {
+                np = 7 + upTo(3);
+                ni = 6 + upTo(2);
+            }
             int skillful = random.nextInt(3);
             StringBuilder t = new StringBuilder();
             for (int p = 0; p < np; p++) t.append("a" + upTo(99) + "," + (skillful == 0 ? 15 : upTo(15) | upTo(15)) + ";");
@@ -612,7 +638,7 @@ public final class PlainModelTest {
                 t.append("c" + (set == 0 ? 1 : set) + "," + (1 + upTo(14)) + ";");
             }
             for (int i = 0; i < ni; i++) if (random.nextInt(6) > 0) t.append("o" + upTo(np - 1) + "," + i + ";");
-            int covers = upTo(np * ni > 10 ? 10 : np * ni);
+            int covers = large ? 16 + upTo(8) : upTo(np * ni > 10 ? 10 : np * ni);
             for (int k = 0; k < covers; k++) t.append("k" + upTo(np - 1) + "," + upTo(ni - 1) + ";");
             for (int p = 0; p + 1 < np; p++) {
                 if (random.nextInt(4) > 0) t.append("x" + p + "," + (p + 1 + upTo(np - 2 - p)) + "," + upTo(100) + ";");
@@ -654,7 +680,9 @@ public final class PlainModelTest {
             int off = random.nextInt(3) == 0 ? 0 : near(1 << m.players.size());
             int cut = random.nextInt(3) > 0 ? 0 : near(1 << m.parts.size());
             int what;
-            switch (random.nextInt(26)) {
+            int kind = random.nextInt(26);
+            if (large && (kind == 10 || kind == 15 || kind == 16)) return;
+            switch (kind) {
                 case 0: what = near(5); due("player " + p + " " + what, x.player(p, what), m.player(p, what)); break;
                 case 1: what = near(6); due("part " + i + " " + what, x.part(i, what), m.part(i, what)); break;
                 case 2: due("both " + i + " " + j, x.both(i, j), m.both(i, j)); break;
@@ -682,6 +710,13 @@ public final class PlainModelTest {
                 case 24: due("back", x.back(), m.back()); break;
                 default: what = near(7); due("count " + what, x.count(what), m.count(what));
             }
+        }
+
+        /** What the model has to work long for is asked of a large company only once. */
+        void askDear() {
+            due("fewest", x.fewest(), m.fewest());
+            int k = 1 + upTo(1);
+            due("engaged " + k, x.engaged(k, 0), m.engaged(k, 0));
         }
 
         void askRehearsals() {
