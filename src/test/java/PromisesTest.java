@@ -169,6 +169,20 @@ public final class PromisesTest {
         dueFault("a1,1;p1,1,1,1;" + times(25, "k0,0;"), 134);
         dueFault("a1,1;p1,1,1,1;" + times(40, "o0,0;"), NONE);
         dueFault("a1,1;a1,1;" + times(40, "x0,1,5;"), NONE);
+        // just 400 bytes, whose last item has no end
+        dueFault(times(98, "m01;") + "m0000007", 392);
+        dueFault(times(99, "m01;") + "m007", 396);
+        dueFault(times(99, "m01;") + "w01,", 396);
+        dueFault(times(99, "m01;") + "m01;", NONE);
+        // what was there ahead of a wipe is no end of an item
+        OnByThursday x = new OnByThursday();
+        put(x, "m1;m55;");
+        x.wipe();
+        put(x, "m1;m5");
+        due("an old figure and ; behind", x.fault(), 3);
+        x.wipe();
+        put(x, "m1;m55");
+        due("an old ; behind", x.fault(), 3);
     }
 
     private static void lay() {
@@ -440,6 +454,16 @@ public final class PromisesTest {
         w.rest(2);
         due("91 and 10 lines", w.rehearsals(2, -3), 2);
         due("91 and 10 lines", w.rehearsals(2, 1), 2);
+        String many = times(4, "a1,0;") + times(8, "p1,0,300,0;") + "f99;";
+        for (int i = 0; i < 8; i++) many += "o0," + i + ";k1," + i + ";k2," + i + ";k3," + i + ";";
+        OnByThursday all = laid(many);
+        all.rest(2);
+        due("all pairs there can be", all.rehearsals(99, -1), 9600);
+        due("all pairs there can be", all.rehearsals(99, -2), 96);
+        due("all pairs there can be", all.rehearsals(99, 31), 37);
+        due("all pairs there can be", all.rehearsals(99, 32), NONE);
+        due("one less", all.rehearsals(95, -3), 31);
+        due("the last one is left out", all.rehearsals(95, 30), 36);
     }
 
     private static void rest() {
@@ -546,6 +570,9 @@ public final class PromisesTest {
         due("two", laid(three + "p1,0,9,0;o0,0;").fewest(), 2);
         due("three", laid(three + "p1,0,9,0;").fewest(), NONE);
         due("two of several parts", laid(three + "p1,0,9,0;p1,0,9,0;o0,0;k1,0;o2,1;k1,1;").fewest(), 2);
+        String clashing = times(4, "a1,0;") + "p1,0,9,0;p1,0,9,0;c3,1;o0,0;o0,1;k1,1;k1,0;";
+        due("two that are needed at once", laid(clashing).fewest(), 2);
+        due("two covers that are off", laid(three + "p1,0,9,0;p1,0,9,0;o0,0;o2,1;k0,1;").fewest(), NONE);
         due("no cover has the skill", laid(three + "p1,1,9,0;o0,0;").fewest(), NONE);
         due("two players off leave nobody", laid("a1,0;a1,0;p1,0,9,0;o0,0;").fewest(), NONE);
         due("one player", new OnByThursday().fewest(), 0);
