@@ -31,7 +31,8 @@ public final class CastingEdgesTest {
         }
         Stage.of(TEN_PLAYERS + EIGHT_PARTS).dueAll("player(#, 0)", BAD, NEVER).dueAll("player(#, 4)", BAD, NEVER);
         Stage.says("promise 6", "what is 0 to 4");
-        Stage.of(TEN_PLAYERS + EIGHT_PARTS).dueAll("player(9, #)", BAD, "5", "-1", "MIN", "MAX").dueAll("player(0, #)", BAD, "5", "6", "-1");
+        Stage.of(TEN_PLAYERS + EIGHT_PARTS).dueAll("player(9, #)", BAD, "5", "-1", "MIN", "MAX")
+            .dueAll("player(0, #)", BAD, "5", "6", "-1");
         Stage.says("promise 6", "HEIGHT, SKILLS: the least and the most");
         Stage.of("a0,0;a99,15;p1,0,1,0;").due("player(0, #)", 0, 0).due("player(1, #)", 99, 15);
         Stage.says("promise 6", "PARTS that are its OWN, that it KNOWS, that it MAY play: none, the last, all");
@@ -66,11 +67,13 @@ public final class CastingEdgesTest {
         }
         Stage.of(TEN_PLAYERS + EIGHT_PARTS).dueAll("part(#, 0)", BAD, NEVER).dueAll("part(#, 5)", BAD, NEVER);
         Stage.says("promise 7", "what is 0 to 5");
-        Stage.of(TEN_PLAYERS + EIGHT_PARTS).dueAll("part(7, #)", BAD, "6", "-1", "MIN", "MAX").dueAll("part(0, #)", BAD, "6", "7", "-1");
+        Stage.of(TEN_PLAYERS + EIGHT_PARTS).dueAll("part(7, #)", BAD, "6", "-1", "MIN", "MAX")
+            .dueAll("part(0, #)", BAD, "6", "7", "-1");
         Stage.says("promise 7", "SIZE, SKILLS, LINES, C: the least and the most");
         Stage.of("a1,0;p0,0,1,0;p99,15,999,1;").due("part(0, #)", 0, 0, 1, 0).due("part(1, #)", 99, 15, 999, 1);
         Stage.says("promise 7", "SCENES in which it is on, as bits: none, the first, the last, all");
-        Stage.of("a1,0;p1,0,1,0;p1,0,1,0;p1,0,1,0;p1,0,1,0;c5,1;" + "c4,1;".repeat(8) + "c6,1;").due("part(#, 4)", 1, 512, 1023, 0);
+        Stage.of("a1,0;p1,0,1,0;p1,0,1,0;p1,0,1,0;p1,0,1,0;c5,1;" + "c4,1;".repeat(8) + "c6,1;")
+            .due("part(#, 4)", 1, 512, 1023, 0);
         Stage.says("promise 7", "whose OWN it is (5; NONE)");
         Stage.of(TEN_PLAYERS + "p1,0,1,0;p1,0,1,0;p1,0,1,0;o0,0;o9,1;k5,2;").due("part(#, 5)", 0, 9, NONE);
     }
@@ -86,7 +89,8 @@ public final class CastingEdgesTest {
         Stage.says("promise 8", "BAD: PARTS such as there are");
         for (int parts = 1; parts <= 8; parts++) {
             Stage.of("a1,0;" + "p9,0,9,0;".repeat(parts)).due("both(0, " + parts + ")", BAD).due("both(" + parts + ", 0)", BAD)
-                .due("both(0, " + (parts - 1) + ")", parts == 1 ? BAD : 1).due("both(" + (parts - 1) + ", 0)", parts == 1 ? BAD : 1);
+                .due("both(0, " + (parts - 1) + ")", parts == 1 ? BAD : 1)
+                .due("both(" + (parts - 1) + ", 0)", parts == 1 ? BAD : 1);
         }
         Stage.of("a1,0;" + EIGHT_PARTS).dueAll("both(0, #)", BAD, NEVER).dueAll("both(#, 0)", BAD, NEVER);
         Stage.says("promise 8", "SCENES and changes alone looked at");
@@ -149,7 +153,8 @@ public final class CastingEdgesTest {
         Stage.of(three + "c1,1;c8,5;c4,5;c8,5;c2,1;m5;").due("ways(0, 8)", 1);
         Stage.of(three + "c1,1;c8,5;c4,5;c8,4;c2,1;m5;").due("ways(0, 8)", 0).due("ways(0, 12)", 1);
         Stage.says("part 1", "the first of three PARTS that a PLAYER has counts as the last one does");
-        Stage.of(three + "c5,1;c2,1;").due("ways(0, 8)", 0).due("least(0, 8, -1)", NONE).due("ways(0, 9)", 1).due("ways(0, 12)", 1);
+        Stage.of(three + "c5,1;c2,1;").due("ways(0, 8)", 0).due("least(0, 8, -1)", NONE).due("ways(0, 9)", 1)
+            .due("ways(0, 12)", 1);
         Stage.says("part 1", "a PART that is CUT takes nobody's time");
         Stage.of(three + "c7,9;").due("ways(0, #)", 0, 0, 0, 0, 0, 0, 0, 0, 0, 0, 0, 1, 0, 1, 1, 1);
     }
@@ -162,7 +167,8 @@ public final class CastingEdgesTest {
         for (int i = 0; i < 8; i++) {
             many += "o0," + i + ";k1," + i + ";k2," + i + ";k3," + i + ";";
         }
-        Stage.of(many).due("ways(0, 0)", 65536).due("ways(8, 0)", 6561).due("ways(14, 0)", 1).due("ways(15, 0)", 0).due("ways(0, 255)", 1);
+        Stage.of(many).due("ways(0, 0)", 65536).due("ways(8, 0)", 6561).due("ways(14, 0)", 1).due("ways(15, 0)", 0)
+            .due("ways(0, 255)", 1);
         Stage.says("promise 9", "all PARTS in one SCENE: each PLAYER one PART");
         Stage.of(many + "c255,1;").due("ways(0, 0)", 0).due("ways(0, 15)", 24).due("ways(0, 7)", 0).due("ways(1, 31)", 6);
         Stage.says("part 1", "for each other PART a PLAYER that is not OFF");
@@ -175,20 +181,26 @@ public final class CastingEdgesTest {
         for (int players = 1; players <= 10; players++) {
             Stage.says("promise 9", "BAD: 0; sets of PLAYERS such as there are");
             int all = (1 << players) - 1;
-            Stage s = Stage.of("a1,0;".repeat(players) + "p1,0,1,0;o0,0;").due("ways(" + (all - 1) + ", 0)", 1).due("ways(" + all + ", 1)", 1);
-            s.dueAll("ways(#, 1)", 0, Integer.toString(all + 1), "-1", "MIN", "1073741824").dueAll("ways(#, 0)", 0, Integer.toString(all + 1), "MIN", "1024");
+            Stage s = Stage.of("a1,0;".repeat(players) + "p1,0,1,0;o0,0;").due("ways(" + (all - 1) + ", 0)", 1)
+                .due("ways(" + all + ", 1)", 1);
+            s.dueAll("ways(#, 1)", 0, Integer.toString(all + 1), "-1", "MIN", "1073741824")
+                .dueAll("ways(#, 0)", 0, Integer.toString(all + 1), "MIN", "1024");
             Stage.says("promise 10", "BAD: sets of PLAYERS such as there are");
-            s.due("least(" + (all - 1) + ", 0, -1)", 0).dueAll("least(#, 0, -1)", BAD, Integer.toString(all + 1), "-1", "MIN", "MAX", "1024");
+            s.due("least(" + (all - 1) + ", 0, -1)", 0)
+                .dueAll("least(#, 0, -1)", BAD, Integer.toString(all + 1), "-1", "MIN", "MAX", "1024");
             Stage.says("promise 11", "BAD: sets of PLAYERS such as there are");
-            s.due("cuts(" + (all - 1) + ", 0)", 0).dueAll("cuts(#, 0)", BAD, Integer.toString(all + 1), "-1", "MIN", "MAX", "1024");
+            s.due("cuts(" + (all - 1) + ", 0)", 0)
+                .dueAll("cuts(#, 0)", BAD, Integer.toString(all + 1), "-1", "MIN", "MAX", "1024");
         }
         for (int parts = 1; parts <= 8; parts++) {
             Stage.says("promise 9", "BAD: 0; sets of PARTS such as there are");
             int all = (1 << parts) - 1;
-            Stage s = Stage.of("a1,0;" + "p1,0,1,0;".repeat(parts) + "o0,0;").due("ways(0, " + (all - 1) + ")", 1).due("ways(0, " + all + ")", 1);
+            Stage s = Stage.of("a1,0;" + "p1,0,1,0;".repeat(parts) + "o0,0;").due("ways(0, " + (all - 1) + ")", 1)
+                .due("ways(0, " + all + ")", 1);
             s.dueAll("ways(0, #)", 0, Integer.toString(all + 1), Integer.toString(2 * all + 1), "-1", "-2", "MIN", "MAX");
             Stage.says("promise 10", "BAD: sets of PARTS such as there are");
-            s.due("least(0, " + all + ", -1)", 0).dueAll("least(0, #, -1)", BAD, Integer.toString(all + 1), "-1", "-2", "MIN", "MAX", "256");
+            s.due("least(0, " + all + ", -1)", 0)
+                .dueAll("least(0, #, -1)", BAD, Integer.toString(all + 1), "-1", "-2", "MIN", "MAX", "256");
         }
     }
 
@@ -228,7 +240,8 @@ public final class CastingEdgesTest {
             Stage.of("a50,0;p49,0,1,0;" + t).due("least(0, 0, -1)", 100 + tailor);
         }
         Stage.says("part 1", "by one that has it as its OWN: N less KEPT LINES");
-        Stage.of("a0,0;p99,0,100,0;o0,0;t9;").due("least(0, 0, -1)", 0).then("rest(1)").due("least(0, 0, -1)", 10).due("least(0, 0, -2)", 0);
+        Stage.of("a0,0;p99,0,100,0;o0,0;t9;").due("least(0, 0, -1)", 0).then("rest(1)").due("least(0, 0, -1)", 10)
+            .due("least(0, 0, -2)", 0);
         Stage.of("a0,0;p99,0,100,0;o0,0;k0,0;t9;").due("least(0, 0, -1)", 0).due("least(0, 0, -2)", 0);
         Stage.says("part 1", "and N less KEPT LINES: none forgotten, all");
         Stage s = Stage.of("a1,0;p1,0,999,0;k0,0;f50;").due("least(0, 0, -1)", 100).due("least(0, 0, -3)", 0);
@@ -258,9 +271,11 @@ public final class CastingEdgesTest {
         // 0 and 1 as 100 and 101, or 1 and 0 as 101 and 100
         Stage.of("a1,0;a2,0;p1,0,9,0;p1,0,9,0;k0,0;k1,0;k0,1;k1,1;c3,1;").due("least(0, 0, #)", 0, 1).due("least(0, 0, -1)", 201);
         // 0 and 1 as 110 and 109, or 1 and 0 as 119 and 100
-        Stage.of("a20,0;a29,0;p10,0,9,0;p20,0,9,0;k0,0;k1,0;k0,1;k1,1;c3,1;").due("least(0, 0, #)", 0, 1).due("least(0, 0, -1)", 219);
+        Stage.of("a20,0;a29,0;p10,0,9,0;p20,0,9,0;k0,0;k1,0;k0,1;k1,1;c3,1;").due("least(0, 0, #)", 0, 1)
+            .due("least(0, 0, -1)", 219);
         // 0 and 1 as 110 and 111, or 1 and 0 as 110 and 109
-        Stage.of("a30,0;a10,0;p20,0,9,0;p21,0,9,0;k0,0;k1,0;k0,1;k1,1;c3,1;").due("least(0, 0, #)", 1, 0).due("least(0, 0, -1)", 219);
+        Stage.of("a30,0;a10,0;p20,0,9,0;p21,0,9,0;k0,0;k1,0;k0,1;k1,1;c3,1;").due("least(0, 0, #)", 1, 0)
+            .due("least(0, 0, -1)", 219);
         Stage.says("part 1", "(a PART that is CUT has none)");
         Stage.of("a1,0;a1,0;p1,0,9,0;p1,0,9,0;k0,0;k1,0;k0,1;k1,1;c3,1;").due("least(0, 1, 1)", 0).due("least(0, 0, 1)", 1)
             .due("least(0, 1, -2)", 1).due("least(0, 1, -1)", 100);

@@ -37,19 +37,24 @@ public final class ColdEdgesTest {
             }
         }
         Stage.says("promise 16", "MET (10), the set of the most (11), how many (12)");
-        Stage.of("a1,0;p1,0,9,0;o0,0;").due("cold(0, 0, #)", 0, BAD, BAD, BAD, BAD, BAD, BAD, BAD, BAD, BAD, MILLION, 0, MILLION, BAD)
+        Stage.of("a1,0;p1,0,9,0;o0,0;")
+            .due("cold(0, 0, #)", 0, BAD, BAD, BAD, BAD, BAD, BAD, BAD, BAD, BAD, MILLION, 0, MILLION, BAD)
             .dueAll("cold(0, 0, #)", BAD, "-1", "13", "14", "MIN", "MAX");
-        Stage.of(TEN_PLAYERS + "p1,0,9,0;o0,0;").due("cold(513, 0, #)", MILLION, 0, 0, 0, 0, 0, 0, 0, 0, MILLION, 0, 513, MILLION, BAD);
+        Stage.of(TEN_PLAYERS + "p1,0,9,0;o0,0;")
+            .due("cold(513, 0, #)", MILLION, 0, 0, 0, 0, 0, 0, 0, 0, MILLION, 0, 513, MILLION, BAD);
     }
 
     private static void passing() {
         Stage.says("part 3", "some PLAYERS have it .. for good");
-        Stage.of("a1,0;a1,0;p1,0,9,0;o0,0;").due("cold(1, #, 0)", MILLION, MILLION, MILLION, MILLION, MILLION, MILLION, MILLION, MILLION, MILLION,
+        Stage.of("a1,0;a1,0;p1,0,9,0;o0,0;")
+            .due("cold(1, #, 0)", MILLION, MILLION, MILLION, MILLION, MILLION, MILLION, MILLION, MILLION, MILLION,
             MILLION, MILLION, MILLION, MILLION, MILLION, MILLION);
         Stage.says("part 3", "nobody has it, all have it");
         Stage full = Stage.of("a1,0;a1,0;a1,0;p1,0,9,0;o0,0;x0,1,100;x0,2,100;x1,2,100;");
-        full.due("cold(0, 14, #)", 0, 0, 0).due("cold(0, 14, 11)", 0).due("cold(0, 14, 12)", MILLION).due("cold(0, 14, 10)", MILLION);
-        full.due("cold(7, 14, #)", MILLION, MILLION, MILLION).due("cold(7, 14, 11)", 7).due("cold(7, 14, 12)", MILLION).due("cold(7, 14, 10)", 0);
+        full.due("cold(0, 14, #)", 0, 0, 0).due("cold(0, 14, 11)", 0).due("cold(0, 14, 12)", MILLION)
+            .due("cold(0, 14, 10)", MILLION);
+        full.due("cold(7, 14, #)", MILLION, MILLION, MILLION).due("cold(7, 14, 11)", 7).due("cold(7, 14, 12)", MILLION)
+            .due("cold(7, 14, 10)", 0);
         Stage.says("part 1", "by C hundredths a day (0 to 100): 0, 1, 99, 100");
         for (int c : new int[] {0, 1, 99, 100}) {
             Stage.of("a1,0;a1,0;p1,0,9,0;x0,1," + c + ";").due("cold(1, 1, 1)", c * 10000).due("cold(2, 1, 0)", c * 10000);
@@ -62,18 +67,22 @@ public final class ColdEdgesTest {
             chain += "x" + p + "," + (p + 1) + ",100;";
         }
         Stage row = Stage.of(TEN_PLAYERS + chain).due("cold(1, #, 11)", 1, 3, 7, 15, 31, 63, 127, 255, 511, 1023, 1023);
-        row.due("cold(512, #, 11)", 512, 768, 896, 960, 992, 1008, 1016, 1020, 1022, 1023, 1023).due("cold(1, 8, 9)", 0).due("cold(1, 9, 9)", MILLION);
+        row.due("cold(512, #, 11)", 512, 768, 896, 960, 992, 1008, 1016, 1020, 1022, 1023, 1023).due("cold(1, 8, 9)", 0)
+            .due("cold(1, 9, 9)", MILLION);
         Stage.says("promise 16", "asked of fewer DAYS, of other PLAYERS, again");
-        row.due("cold(1, 14, 11)", 1023).due("cold(1, 2, 11)", 7).due("cold(2, 2, 11)", 15).due("cold(1, 3, 11)", 15).due("cold(1, 0, 11)", 1);
+        row.due("cold(1, 14, 11)", 1023).due("cold(1, 2, 11)", 7).due("cold(2, 2, 11)", 15).due("cold(1, 3, 11)", 15)
+            .due("cold(1, 0, 11)", 1);
     }
 
     private static void cutting() {
         Stage.says("part 3", "for each that has it (.. by their numbers) times (100 less C) by 100, cut");
         // as they come 255529; cut at the end alone, or from the last one on, 255530
-        Stage.of("a1,0;".repeat(7) + "p1,0,9,0;x0,6,53;x1,6,2;x2,6,15;x3,6,2;x4,6,26;x5,6,10;").due("cold(63, 1, 6)", MILLION - 255529);
+        Stage.of("a1,0;".repeat(7) + "p1,0,9,0;x0,6,53;x1,6,2;x2,6,15;x3,6,2;x4,6,26;x5,6,10;")
+            .due("cold(63, 1, 6)", MILLION - 255529);
         Stage.says("part 3", "The million of each state is parted PLAYER by PLAYER (those that have it not, rising)");
         // 2 stays well by 448900, 3 by 685300: {0, 1} 307631, with 2 377668; falling it would be 551101 and 314700
-        Stage.of("a1,0;".repeat(4) + "p1,0,9,0;x0,2,33;x1,2,33;x0,3,11;x1,3,23;").due("cold(3, 1, #)", MILLION, MILLION, 551100, 314701)
+        Stage.of("a1,0;".repeat(4) + "p1,0,9,0;x0,2,33;x1,2,33;x0,3,11;x1,3,23;")
+            .due("cold(3, 1, #)", MILLION, MILLION, 551100, 314701)
             .due("cold(3, 1, 11)", 7).due("cold(3, 1, 12)", 377668);
         Stage.says("part 3", "of n in a state n times w by 1000000, cut, stay well, the others catch it");
         // 10000 stay well, then 100, then 1, then none
@@ -101,7 +110,8 @@ public final class ColdEdgesTest {
         Stage.of("a1,0;a1,0;a1,0;p1,0,9,0;x1,2,50;x0,1,50;").due("cold(2, 1, 11)", 2).due("cold(2, 1, 12)", 250000);
         Stage.of("a1,0;a1,0;a1,0;p1,0,9,0;x1,2,50;x0,1,75;").due("cold(2, 1, 11)", 3).due("cold(2, 1, 12)", 375000);
         Stage.says("part 3", "in how many MET (nothing CUT) with these OFF");
-        Stage.of("a1,0;a1,0;p1,0,9,1;o0,0;x0,1,30;").due("cold(2, 1, 10)", 700000).due("cold(1, 1, 10)", 0).due("cold(0, 1, 10)", MILLION);
+        Stage.of("a1,0;a1,0;p1,0,9,1;o0,0;x0,1,30;").due("cold(2, 1, 10)", 700000).due("cold(1, 1, 10)", 0)
+            .due("cold(0, 1, 10)", MILLION);
         Stage.of("a1,0;a1,0;p1,0,9,0;o0,0;k1,0;x0,1,30;").due("cold(2, 1, 10)", 700000).due("cold(1, 1, 10)", 700000);
         Stage.of("a1,0;a1,0;p1,0,9,0;x0,1,30;").due("cold(0, 0, 10)", 0);
         Stage.says("part 3", "one of 1000000 counts, and none");
@@ -128,6 +138,12 @@ public final class ColdEdgesTest {
             Stage.of("a1,0;".repeat(players) + "p1,0,9,1;").due("weak(1, #)", players, 1)
                 .due("weak(2, #)", players * (players - 1) / 2, players > 1 ? 3 : NONE);
         }
+        Stage.says("part 3", "three PARTS of one SCENE, two PLAYERS that KNOW them all, then three");
+        String three = "p1,0,9,1;p1,0,9,1;p1,0,9,1;c7,1;k0,0;k0,1;k0,2;k1,0;k1,1;k1,2;";
+        Stage.of("a1,0;a1,0;" + three).due("weak(1, #)", 2, 1).due("run(1, 0, 0)", 0).due("cold(0, 0, 10)", 0)
+            .due("cuts(0, #)", 1, 9);
+        Stage.of("a1,0;a1,0;a1,0;" + three + "k2,0;").due("weak(1, #)", 3, 1).due("run(1, 0, 0)", 1)
+            .due("cold(0, 0, 10)", MILLION).due("cuts(0, #)", 0, 0);
         Stage.says("part 3", "the first (least bits)");
         Stage.of(TEN_PLAYERS + "p1,0,9,0;o9,0;").due("weak(1, #)", 1, 512).due("weak(2, #)", 9, 513);
         Stage.of(TEN_PLAYERS + "p1,0,9,0;o8,0;k9,0;").due("weak(1, #)", 0, NONE).due("weak(2, #)", 1, 768);
@@ -137,7 +153,8 @@ public final class ColdEdgesTest {
     private static void numbersOfEngaged() {
         Stage s = Stage.of("a1,0;a1,0;p1,0,9,0;o0,0;");
         Stage.says("promise 18", "k (1, 2)");
-        s.due("engaged(#, 0)", BAD, 10, 10, BAD).due("engaged(#, 1)", BAD, 0, 1, BAD).dueAll("engaged(#, 0)", BAD, "-1", "MIN", "MAX");
+        s.due("engaged(#, 0)", BAD, 10, 10, BAD).due("engaged(#, 1)", BAD, 0, 1, BAD)
+            .dueAll("engaged(#, 0)", BAD, "-1", "MIN", "MAX");
         Stage.says("promise 18", "10 PLAYER and PART (what = 0), how many are WEAK then (1)");
         s.dueAll("engaged(1, #)", BAD, "2", "-1", "MIN", "MAX");
         Stage.says("promise 18", "NONE: there is no COVER");
@@ -163,7 +180,8 @@ public final class ColdEdgesTest {
         }
         Stage.of(most).due("engaged(1, #)", 97, 1).due("engaged(2, #)", 97, 9);
         Stage.says("part 3", "a COVER beyond the 24 that are told");
-        Stage.of("a1,0;a1,0;p1,0,9,0;o0,0;" + "k0,0;".repeat(24)).due("count(6)", 24).due("engaged(1, #)", 10, 0).due("count(6)", 24);
+        Stage.of("a1,0;a1,0;p1,0,9,0;o0,0;" + "k0,0;".repeat(24)).due("count(6)", 24).due("engaged(1, #)", 10, 0)
+            .due("count(6)", 24);
     }
 
     private static void bestCover() {
@@ -180,9 +198,11 @@ public final class ColdEdgesTest {
         // of two PLAYERS one is left for two PARTS of one SCENE, whatever it KNOWS
         Stage.of("a1,0;a1,0;p1,0,9,0;p1,0,9,0;o0,0;o1,1;c3,1;").due("weak(1, 0)", 2).due("engaged(1, #)", 1, 2);
         Stage.of("a1,0;a1,0;a1,0;p1,0,9,0;p1,0,9,0;o0,0;o1,1;k2,1;c3,1;").due("weak(1, 0)", 1).due("engaged(1, #)", 10, 0);
-        Stage.of("a1,0;a1,0;p1,0,9,0;p1,0,9,0;p1,0,9,0;o0,0;o1,1;o1,2;k0,1;c6,1;").due("weak(1, #)", 2, 1).due("engaged(1, #)", 2, 2);
+        Stage.of("a1,0;a1,0;p1,0,9,0;p1,0,9,0;p1,0,9,0;o0,0;o1,1;o1,2;k0,1;c6,1;").due("weak(1, #)", 2, 1)
+            .due("engaged(1, #)", 2, 2);
         Stage.says("promise 18", "nothing is engaged by asking");
-        Stage.of("a1,0;a1,0;p1,0,9,0;o0,0;").then("engaged(1, 0)").due("player(1, 3)", 0).due("count(6)", 0).due("weak(1, 0)", 1).due("engaged(1, 0)", 10);
+        Stage.of("a1,0;a1,0;p1,0,9,0;o0,0;").then("engaged(1, 0)").due("player(1, 3)", 0).due("count(6)", 0)
+            .due("weak(1, 0)", 1).due("engaged(1, 0)", 10);
     }
 
     private static void fewest() {
@@ -207,13 +227,20 @@ public final class ColdEdgesTest {
         Stage.of("a1,0;a1,0;a1,0;p1,0,9,0;p1,0,9,0;k0,0;k0,1;k1,0;k2,1;").due("fewest()", 2);
         Stage.of("a1,0;a1,0;a1,0;p1,0,9,0;p1,0,9,0;k0,0;k0,1;k1,0;k1,1;c3,1;").due("fewest()", NONE);
         Stage.says("part 3", "one COVER, not the first there is");
-        Stage.of("a1,0;".repeat(4) + "p1,0,9,0;p1,0,9,0;k0,0;k1,0;k1,1;k2,1;k3,1;").due("fewest()", 1).due("engaged(2, #)", 20, 0);
+        Stage.of("a1,0;".repeat(4) + "p1,0,9,0;p1,0,9,0;k0,0;k1,0;k1,1;k2,1;k3,1;").due("fewest()", 1)
+            .due("engaged(2, #)", 20, 0);
         Stage.says("part 3", "a COVER that is OFF is of no use, be it the first or the second of two");
         Stage.of("a1,0;a1,0;a1,0;p1,0,9,0;p1,0,9,0;o0,0;o0,1;").due("fewest()", NONE);
         Stage.of("a1,0;a1,0;a1,0;p1,0,9,0;p1,0,9,0;o0,0;o0,1;k2,0;").due("fewest()", NONE);
         Stage.of("a1,0;a1,0;a1,0;p1,0,9,0;p1,0,9,0;o0,0;o0,1;k1,1;").due("fewest()", NONE);
         Stage.says("part 3", "two COVERS, and another PART that nobody is left for");
-        Stage.of("a1,0;".repeat(4) + "p1,1,9,0;p1,0,9,0;p1,0,9,0;o0,0;k0,1;k0,2;k1,1;k1,2;c6,1;").due("fewest()", NONE);
+        String four = "a1,0;".repeat(4) + "p1,0,9,0;p1,0,9,0;p1,0,9,0;k0,0;k0,1;k0,2;k1,0;k1,1;k1,2;c6,1;";
+        Stage.of(four).due("fewest()", NONE);
+        Stage.of(four + "k2,0;").due("fewest()", 2);
+        Stage.says("part 3", "two COVERS, neither the first there is");
+        Stage.of("a1,0;".repeat(4) + "p1,0,9,0;p1,0,9,0;k0,0;k1,1;k2,1;k3,1;").due("fewest()", 2);
+        Stage.says("promise 19", "two in one company, none in the next");
+        Stage.of(four + "k2,0;").due("fewest()", 2).then("wipe()").put(four).due("lay()", 4).due("fewest()", NONE);
         Stage.says("part 3", "two COVERS that are needed in one CASTING");
         Stage.of("a1,0;".repeat(4) + "p1,0,9,0;p1,0,9,0;c3,1;k0,0;k0,1;k1,0;k1,1;").due("fewest()", 2);
         Stage.says("promises 16 to 19", "ten PLAYERS, all of whom MAY play a PART");
@@ -222,15 +249,18 @@ public final class ColdEdgesTest {
             every += (p == 0 ? "o" : "k") + p + ",0;" + (p == 9 ? "o" : "k") + p + ",1;";
         }
         for (String scene : new String[] {"", "c3,1;"}) {
-            Stage.of(TEN_PLAYERS + "p1,0,9,0;p1,0,9,0;" + every + scene).due("weak(1, #)", 0, NONE).due("weak(2, #)", 0, NONE).due("fewest()", 0)
-                .due("engaged(1, 0)", NONE).due("cold(511, 14, 10)", scene.isEmpty() ? MILLION : 0).due("cold(255, 0, 10)", MILLION).due("run(20, 0, 255)", 20);
+            Stage.of(TEN_PLAYERS + "p1,0,9,0;p1,0,9,0;" + every + scene).due("weak(1, #)", 0, NONE)
+                .due("weak(2, #)", 0, NONE).due("fewest()", 0)
+                .due("engaged(1, 0)", NONE).due("cold(511, 14, 10)", scene.isEmpty() ? MILLION : 0)
+                .due("cold(255, 0, 10)", MILLION).due("run(20, 0, 255)", 20);
         }
         Stage.says("promises 16 to 19", "eight PARTS, each by a PLAYER of its own");
         String own = TEN_PLAYERS + "p1,0,9,1;".repeat(8) + "c255,1;";
         for (int i = 0; i < 8; i++) {
             own += "o" + i + "," + i + ";";
         }
-        Stage.of(own).due("weak(1, #)", 8, 1).due("weak(2, #)", 44, 3).due("fewest()", NONE).due("engaged(1, #)", 80, 7).due("cuts(0, 0)", 0)
+        Stage.of(own).due("weak(1, #)", 8, 1).due("weak(2, #)", 44, 3).due("fewest()", NONE).due("engaged(1, #)", 80, 7)
+            .due("cuts(0, 0)", 0)
             .due("cuts(128, #)", 128, 9).due("cold(768, 1, 10)", MILLION).due("cold(128, 0, 10)", 0).due("run(20, 0, 768)", 20);
         Stage.says("promise 19", "ten PLAYERS, eight PARTS, nobody KNOWS any");
         Stage.of(TEN_PLAYERS + "p1,0,9,0;".repeat(8)).due("fewest()", NONE).due("engaged(2, #)", 0, 45);
@@ -249,7 +279,8 @@ public final class ColdEdgesTest {
         }
         Stage.refused(ColdEdgesTest::onTour, "fewest()", NONE);
         Stage.says("promise 16", "BAD between two of one cold");
-        Stage s = Stage.of("a1,0;a1,0;p1,0,9,0;o0,0;x0,1,50;").due("cold(1, 1, 1)", 500000).due("cold(1, 15, 1)", BAD).due("cold(4, 2, 1)", BAD);
+        Stage s = Stage.of("a1,0;a1,0;p1,0,9,0;o0,0;x0,1,50;").due("cold(1, 1, 1)", 500000).due("cold(1, 15, 1)", BAD)
+            .due("cold(4, 2, 1)", BAD);
         s.due("cold(1, 2, 1)", 750000).due("cold(1, 2, 13)", BAD).due("cold(1, -1, 1)", BAD).due("cold(1, 3, 1)", 875000);
     }
 }

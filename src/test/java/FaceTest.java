@@ -59,6 +59,20 @@ public final class FaceTest {
             if (inner.getDeclaredFields().length > 24) fault("many fields: " + inner);
         }
         if (c.getDeclaredClasses().length > 11) fault("many classes");
+        methods(c, c);
+        for (Class<?> inner : c.getDeclaredClasses()) methods(c, inner);
+    }
+
+    /** Rules 1 and 11: no other method bears a name of the face, and none takes more than seven. */
+    private static void methods(Class<?> outer, Class<?> c) {
+        Set<String> names = new TreeSet<>();
+        for (Method m : outer.getDeclaredMethods()) {
+            if (isSeen(m)) names.add(m.getName());
+        }
+        for (Method m : c.getDeclaredMethods()) {
+            if ((c != outer || !isSeen(m)) && names.contains(m.getName())) fault("a name of the face: " + m);
+            if (m.getParameterCount() > 7) fault("many parameters: " + m);
+        }
     }
 
     private static boolean isSeen(Member m) {

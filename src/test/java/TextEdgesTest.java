@@ -247,7 +247,8 @@ public final class TextEdgesTest {
     private static void dueFirstBeyond(int players, int parts) {
         String ahead = "a9,0;".repeat(players) + "p9,0,9,0;".repeat(parts);
         for (String letter : new String[] {"o", "k"}) {
-            dueTaken(ahead, letter + (players - 1 < 0 ? 0 : players - 1) + "," + (parts - 1 < 0 ? 0 : parts - 1) + ";", players > 0 && parts > 0);
+            String last = letter + Math.max(0, players - 1) + "," + Math.max(0, parts - 1) + ";";
+            dueTaken(ahead, last, players > 0 && parts > 0);
             dueTaken(ahead, letter + players + ",0;", false);
             dueTaken(ahead, letter + "0," + parts + ";", false);
         }
@@ -403,24 +404,29 @@ public final class TextEdgesTest {
         dueWithout(wiped(Stage.empty().put(told + "?").then("fault()").then("lay()")));
         Stage.says("promise 5", "what was found out of one company is forgotten with it");
         String weak = "a1,0;a1,0;a1,0;p1,0,1,0;o0,0;x0,1,100;", met = "a1,0;a1,0;a1,0;p1,0,1,0;o0,0;k1,0;k2,0;x0,2,100;";
-        wiped(Stage.of(weak).due("weak(#, 0)", BAD, 1, 2).due("fewest()", 2).due("engaged(1, #)", 10, 0).due("engaged(2, #)", 10, 1)
+        wiped(Stage.of(weak).due("weak(#, 0)", BAD, 1, 2).due("fewest()", 2).due("engaged(1, #)", 10, 0)
+            .due("engaged(2, #)", 10, 1)
             .due("cold(1, 1, #)", 1000000, 1000000, 0)).put(met).due("lay()", 3).due("weak(#, 0)", BAD, 0, 0).due("fewest()", 0)
-            .due("engaged(1, #)", NONE, NONE).due("engaged(2, #)", NONE, NONE).due("cold(1, 1, #)", 1000000, 0, 1000000).due("cold(1, 1, 10)", 1000000);
+            .due("engaged(1, #)", NONE, NONE).due("engaged(2, #)", NONE, NONE).due("cold(1, 1, #)", 1000000, 0, 1000000)
+            .due("cold(1, 1, 10)", 1000000);
         String one = "a1,0;a1,0;a1,1;p1,1,1,0;o2,0;", two = "a1,0;a1,0;a1,0;p1,0,1,0;o2,0;", three = "a1,0;a1,0;a1,0;p1,0,1,0;o2,0;k0,0;";
         wiped(wiped(Stage.of(one).due("engaged(1, #)", NONE, NONE).due("engaged(2, #)", NONE, NONE).due("fewest()", NONE))
             .put(two).due("lay()", 3).due("engaged(1, #)", 0, 0).due("engaged(2, #)", 0, 1).due("fewest()", 2))
             .put(three).due("lay()", 3).due("engaged(2, #)", 10, 0).due("fewest()", 1);
         String nobody = "a1,0;p1,0,9,0;p1,0,9,0;k0,0;", somebody = "a1,0;p1,0,9,0;k0,0;";
-        wiped(Stage.of(nobody).due("least(0, 0, -1)", NONE).due("rehearsals(9, -1)", 0)).put(somebody).due("lay()", 1).due("least(0, 0, -1)", 100);
+        wiped(Stage.of(nobody).due("least(0, 0, -1)", NONE).due("rehearsals(9, -1)", 0)).put(somebody).due("lay()", 1)
+            .due("least(0, 0, -1)", 100);
     }
 
     /** All is as without, but for a cover. */
     private static void dueWithout(Stage s) {
         s.put("a1,0;a1,0;p2,0,100,0;p2,0,100,0;k0,0;").due("lay()", 2).due("count(#)", 2, 2, 0, 37, 0, 0, 1)
-            .due("both(0, 1)", 1).due("part(#, 5)", NONE, NONE).due("part(#, 4)", 0, 0).due("part(#, 3)", 0, 0).due("player(#, 3)", 1, 0)
+            .due("both(0, 1)", 1).due("part(#, 5)", NONE, NONE).due("part(#, 4)", 0, 0).due("part(#, 3)", 0, 0)
+            .due("player(#, 3)", 1, 0)
             .due("player(#, 4)", 1, 0).due("cold(1, 14, 1)", 0).due("cuts(0, 0)", NONE).due("least(0, 2, -1)", 101)
             .due("night(0)", NONE).then("rest(1)").due("lines(0, 0)", 90);
-        wiped(s).put("a1,0;a1,0;p2,0,100,0;p2,0,100,0;c1,1;c2,1;k0,0;k0,1;").due("lay()", 2).due("both(0, 1)", 1).due("night(0)", 202)
+        wiped(s).put("a1,0;a1,0;p2,0,100,0;p2,0,100,0;c1,1;c2,1;k0,0;k0,1;").due("lay()", 2).due("both(0, 1)", 1)
+            .due("night(0)", 202)
             .due("owed(#)", 200, 0);
     }
 }
