@@ -182,6 +182,8 @@ public final class ColdEdgesTest {
         Stage.says("part 3", "a COVER beyond the 24 that are told");
         Stage.of("a1,0;a1,0;p1,0,9,0;o0,0;" + "k0,0;".repeat(24)).due("count(6)", 24).due("engaged(1, #)", 10, 0)
             .due("count(6)", 24);
+        Stage.of("a1,0;a1,0;a1,0;p1,0,9,0;o0,0;" + "k0,0;".repeat(24)).due("fewest()", 2).due("count(6)", 24);
+        Stage.of("a1,0;a1,0;a1,0;p1,0,9,0;o0,0;k1,0;" + "k0,0;".repeat(23)).due("fewest()", 1).due("count(6)", 24);
     }
 
     private static void bestCover() {

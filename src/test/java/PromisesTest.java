@@ -572,6 +572,10 @@ public final class PromisesTest {
         due("two of several parts", laid(three + "p1,0,9,0;p1,0,9,0;o0,0;k1,0;o2,1;k1,1;").fewest(), 2);
         String clashing = times(4, "a1,0;") + "p1,0,9,0;p1,0,9,0;c3,1;o0,0;o0,1;k1,1;k1,0;";
         due("two that are needed at once", laid(clashing).fewest(), 2);
+        // with 0 and 1 off both covers of 3 are needed at once: part 0 has nobody, and 2 can't be 1 and 2
+        String ofOne = "a1,3;a1,3;a1,1;a1,2;p1,2,9,0;p1,0,9,0;p1,1,9,0;o0,0;k1,0;o0,1;k1,1;k2,1;o0,2;k1,2;k2,2;c6,1;";
+        due("two covers of one player", laid(ofOne).fewest(), 2);
+        due("two covers of one player that can't have both", laid(ofOne + "c3,1;").fewest(), NONE);
         due("two covers that are off", laid(three + "p1,0,9,0;p1,0,9,0;o0,0;o2,1;k0,1;").fewest(), NONE);
         due("no cover has the skill", laid(three + "p1,1,9,0;o0,0;").fewest(), NONE);
         due("two players off leave nobody", laid("a1,0;a1,0;p1,0,9,0;o0,0;").fewest(), NONE);

@@ -154,6 +154,11 @@ public final class TextEdgesTest {
                 dueTaken(TWO, ahead + "0000000" + number + behind, false);
             }
         }
+        Stage.says("part 1", "numbers (one to three figures): zeros ahead change none of them");
+        Stage.of("a010,008;a09,015;p077,008,099,001;c001,010;o00,000;k001,00;x00,1,010;m012;t09;f010;w010,09;")
+            .due("player(0, #)", 10, 8, 1, 0, 1).due("player(1, #)", 9, 15, 0, 1, 1).due("part(0, #)", 77, 8, 99, 1, 1, 0)
+            .due("least(1, 0, -1)", 100 + 9 * 68).due("cold(1, 1, 1)", 100000).due("night(1)", 712).due("owed(1)", 10 + 9 * 99 / 10)
+            .due("lines(0, 0)", 89);
         Stage.says("part 1", "of all bytes just 0 to 9 are figures");
         for (char c = 0; c < 256; c++) {
             boolean figure = c >= '0' && c <= '9';
